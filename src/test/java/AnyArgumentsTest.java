@@ -5,29 +5,42 @@ final class AnyArgumentsTest {
         100, 199, 200, 231, 232, 255, 256, 399, 400, 999, 1000, Integer.MAX_VALUE - 1, Integer.MAX_VALUE
     };
     private static final long[] LONGS = {
-        Long.MIN_VALUE, -1, 0, 1, 1L << 32, Answers.LAST, Answers.LAST + 1, Long.MAX_VALUE
+        Long.MIN_VALUE, -1, 0, 1, 1L << 32, Run.LAST, Run.LAST + 1, Long.MAX_VALUE
     };
 
     public static void main(String[] args) {
         Answers answers = new Answers("any arguments");
         answers.due("an empty object", throwsNothing(new SignRows()), true);
-        answers.due("a small object", throwsNothing(Answers.withSigners(3)), true);
+        answers.due("a small object", throwsNothing(withSigners(3)), true);
         answers.due("an object that is full", throwsNothing(filled()), true);
         answers.close();
     }
 
+    /** Thing 0 of person 0, and persons 1 .. count - 1 who hold every role for ever. */
+    private static SignRows withSigners(int count) {
+        SignRows rows = new SignRows();
+        for (int p = 0; p < count; p++) {
+            rows.person();
+            for (int r = 0; p > 0 && r < 10; r++) {
+                rows.role(p, r, 0, Run.LAST);
+            }
+        }
+        rows.thing(0);
+        return rows;
+    }
+
     private static SignRows filled() {
-        SignRows rows = Answers.withSigners(6);
+        SignRows rows = withSigners(6);
         for (int i = 0; i < 1100; i++) {
             rows.person();
             rows.thing(i % 24);
-            rows.role(i % 24, i % 10, 0, Answers.LAST);
+            rows.role(i % 24, i % 10, 0, Run.LAST);
             for (int t = 0; t < 16; t++) {
                 rows.byteOf(t, i % 256);
                 rows.comment(t, i % 256, 0);
                 rows.needs(t, i % 10);
             }
-            Answers.sign(rows, 0, 1 + i % 5, i % 10, 0);
+            Run.sign(rows, 0, 1 + i % 5, i % 10, 0);
             rows.withdraw(i);
         }
         return rows;
@@ -73,7 +86,7 @@ final class AnyArgumentsTest {
             rows.role(a, b, second, to);
         }
         for (int c : INTS) {
-            if (Answers.sign(rows, a, b, c, second) == Answers.THROWN + 1) {
+            if (Run.sign(rows, a, b, c, second) == Run.THROWN + 1) {
                 throw new IllegalArgumentException("sign throws a class below IllegalStateException");
             }
         }

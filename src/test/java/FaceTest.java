@@ -6,7 +6,7 @@ import java.util.Arrays;
 import java.util.List;
 import java.util.TreeSet;
 
-/** The public face is the document's, and nothing else of the class is seen from outside. */
+/** The document's "The public face": it stands as told, and nothing else of the class is seen from outside. */
 final class FaceTest {
     private static final List<String> METHODS = List.of(
         "public int SignRows.person()",
@@ -29,6 +29,7 @@ final class FaceTest {
         answers.due("the class is public and final", SignRows.class.getModifiers(), Modifier.PUBLIC | Modifier.FINAL);
         methods(answers);
         fields(answers);
+        values(answers);
         Constructor<?>[] made = SignRows.class.getDeclaredConstructors();
         answers.due("constructors", made.length, 1);
         answers.due("public SignRows()", made[0].toString().equals("public SignRows()"), true);
@@ -50,6 +51,15 @@ final class FaceTest {
             }
         }
         answers.due("the methods are " + seen, seen.equals(new TreeSet<>(METHODS)), true);
+    }
+
+    private static void values(Answers answers) {
+        answers.due("NONE", SignRows.NONE, -1);
+        answers.due("FULL", SignRows.FULL, -2);
+        answers.due("LATE", SignRows.LATE, -3);
+        answers.due("MAKER", SignRows.MAKER, -4);
+        answers.due("ORDER", SignRows.ORDER, -5);
+        answers.due("TWICE", SignRows.TWICE, -6);
     }
 
     private static void fields(Answers answers) {

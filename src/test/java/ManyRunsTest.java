@@ -42,7 +42,7 @@ final class ManyRunsTest {
     private long someSecond() {
         switch (below(24)) {
             case 0: return second - 1 - below(3);
-            case 1: return Answers.LAST + below(2);
+            case 1: return Run.LAST + below(2);
             case 2: return second + below(60);
             default: return second;
         }
@@ -127,7 +127,7 @@ final class ManyRunsTest {
         int p = about(persons);
         int r = about(10);
         long from = second + below(10) - 5;
-        long to = below(3) == 0 ? Answers.LAST : second + below(300) - 10;
+        long to = below(3) == 0 ? Run.LAST : second + below(300) - 10;
         same("role(" + p + ", " + r + ", " + from + ", " + to + ")",
             rows.role(p, r, from, to) ? 1 : 0, plain.role(p, r, from, to) ? 1 : 0);
     }
@@ -137,9 +137,9 @@ final class ManyRunsTest {
         int p = about(persons);
         int m = about(10);
         long at = someSecond();
-        int got = Answers.sign(rows, t, p, m, at);
+        int got = Run.sign(rows, t, p, m, at);
         same("sign(" + t + ", " + p + ", " + m + ", " + at + ")", got, plain.sign(t, p, m, at));
-        second = got >= 0 && at < Answers.LAST - 1 ? at : second;
+        second = got >= 0 && at < Run.LAST - 1 ? at : second;
     }
 
     private void newByte() {
@@ -161,7 +161,7 @@ final class ManyRunsTest {
         long at = run % 50 == 0 ? someSecond() : Math.min(someSecond(), second + 60);
         boolean got = rows.comment(t, u, at);
         same("comment(" + t + ", " + u + ", " + at + ")", got ? 1 : 0, plain.comment(t, u, at) ? 1 : 0);
-        second = got && at < Answers.LAST - 1 ? at : second;
+        second = got && at < Run.LAST - 1 ? at : second;
     }
 
     private void same(String call, int got, int want) {

@@ -61,7 +61,7 @@ final class PlainRows {
             return SignRows.LATE;
         }
         if (roles.stream().noneMatch(r -> r.person == person && r.number == meaning && r.from <= second && second <= r.to)) {
-            return Answers.THROWN;
+            return Run.THROWN;
         }
         if (makers.get(thing) == person) {
             return SignRows.MAKER;
@@ -154,7 +154,7 @@ final class PlainRows {
     }
 
     private static boolean isSecond(long second) {
-        return 0 <= second && second <= Answers.LAST;
+        return 0 <= second && second <= Run.LAST;
     }
 
     private boolean isThing(int thing) {

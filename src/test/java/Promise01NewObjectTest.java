@@ -1,58 +1,75 @@
-/** Promise 1: a new object has no persons, no things and no orders; the constants are as told. */
+/** Promise 1: a new object. */
 final class Promise01NewObjectTest {
     public static void main(String[] args) {
-        Answers answers = new Answers("promise 1");
-        constants(answers);
-        nothingThere(answers);
-        noOrders(answers);
-        objectsApart(answers);
-        answers.close();
+        Sentences tests = new Sentences("Promise 1, SignRows()");
+        tests.sentence("No persons, no things; no orders.");
+        tests.test("no persons", Promise01NewObjectTest::noPersons);
+        tests.test("no things", Promise01NewObjectTest::noThings);
+        tests.test("no things, so no signatures", Promise01NewObjectTest::noSignatures);
+        tests.test("no orders: each meaning may be signed first", Promise01NewObjectTest::noOrdersForSign);
+        tests.test("no orders: each may be told", Promise01NewObjectTest::noOrdersTold);
+        tests.test("whatever was told to another object", Promise01NewObjectTest::objectsApart);
+        tests.close();
     }
 
-    private static void constants(Answers answers) {
-        answers.due("NONE", SignRows.NONE, -1);
-        answers.due("FULL", SignRows.FULL, -2);
-        answers.due("LATE", SignRows.LATE, -3);
-        answers.due("MAKER", SignRows.MAKER, -4);
-        answers.due("ORDER", SignRows.ORDER, -5);
-        answers.due("TWICE", SignRows.TWICE, -6);
+    private static void noPersons(Answers answers) {
+        Run run = new Run(answers);
+        run.role(0, 0, 0, 1, false);
+        run.thing(0, SignRows.NONE);
+        run.person(0);
+        run.role(0, 0, 0, 1, true);
+        run.thing(0, 0);
     }
 
-    private static void nothingThere(Answers answers) {
-        SignRows rows = new SignRows();
-        answers.due("role(0, 0, 0, 1)", rows.role(0, 0, 0, 1), false);
-        answers.due("thing(0)", rows.thing(0), SignRows.NONE);
-        answers.due("byteOf(0, 1)", rows.byteOf(0, 1), false);
-        answers.due("sign(0, 0, 0, 0)", Answers.sign(rows, 0, 0, 0, 0), SignRows.NONE);
-        answers.due("holds(0)", rows.holds(0), false);
-        answers.due("withdraw(0)", rows.withdraw(0), false);
-        answers.due("complete(0)", rows.complete(0), SignRows.NONE);
-        answers.due("comment(0, 1, 0)", rows.comment(0, 1, 0), false);
-        answers.due("digest(0, 0)", rows.digest(0, 0), SignRows.NONE);
-        answers.due("digest(0, 32)", rows.digest(0, 32), SignRows.NONE);
-        answers.due("listed(0)", rows.listed(0), SignRows.NONE);
-        answers.due("needs(0, 0)", rows.needs(0, 0), SignRows.NONE);
-        answers.due("person()", rows.person(), 0);
-        answers.due("thing(0)", rows.thing(0), 0);
-        answers.due("complete(0)", rows.complete(0), 0);
+    private static void noThings(Answers answers) {
+        Run run = Run.withPersons(answers, 1);
+        run.role(0, 0, 0, 1, true);
+        run.byteOf(0, 1, false);
+        run.sign(0, 0, 0, 0, SignRows.NONE);
+        run.complete(0, SignRows.NONE);
+        run.comment(0, 1, 0, false);
+        run.digest(0, 0, SignRows.NONE);
+        run.digest(0, 32, SignRows.NONE);
+        run.needs(0, 0, SignRows.NONE);
+        run.thing(0, 0);
     }
 
-    private static void noOrders(Answers answers) {
-        SignRows rows = Answers.withSigners(2);
+    private static void noSignatures(Answers answers) {
+        Run run = new Run(answers);
+        run.holds(0, false);
+        run.withdraw(0, false);
+        run.listed(0, SignRows.NONE);
+    }
+
+    private static void noOrdersForSign(Answers answers) {
         for (int m = 0; m < 10; m++) {
-            answers.due("sign(0, 1, " + m + ", 0)", Answers.sign(rows, 0, 1, m, 0), m);
+            Run.withSigners(answers, 2).sign(0, 1, m, 0, 0);
+        }
+    }
+
+    private static void noOrdersTold(Answers answers) {
+        for (int m = 0; m < 10; m++) {
+            for (int after = 0; after < 10; after++) {
+                new Run(answers).order(m, after, m != after);
+            }
         }
     }
 
     private static void objectsApart(Answers answers) {
-        SignRows one = Answers.withSigners(2);
-        SignRows other = Answers.withSigners(2);
-        one.byteOf(0, 7);
-        one.order(1, 0);
-        answers.due("sign(0, 1, 0, 9) of one", Answers.sign(one, 0, 1, 0, 9), 0);
-        answers.due("holds(0) of the other", other.holds(0), false);
-        answers.due("digest(0, 0) of the other", other.digest(0, 0), 227);
-        answers.due("sign(0, 1, 1, 0) of the other", Answers.sign(other, 0, 1, 1, 0), 0);
-        answers.due("holds(0) of one", one.holds(0), true);
+        Run one = Run.withSigners(answers, 2);
+        one.byteOf(0, 7, true);
+        one.order(1, 0, true);
+        one.sign(0, 1, 0, 9, 0);
+        one.comment(0, 1, 9, true);
+        one.needs(0, 5, 0);
+        Run other = Run.withSigners(answers, 2);
+        other.holds(0, false);
+        other.digestOf(0);
+        other.digest(0, 32, SignRows.NONE);
+        other.complete(0, 0);
+        other.sign(0, 1, 1, 0, 0);
+        one.digestOf(0, (byte) 7);
+        one.holds(0, true);
+        one.complete(0, 1);
     }
 }

@@ -1,17 +1,37 @@
-/** Promise 2: persons are numbered from 0, at most 24. */
+/** Promise 2: person. */
 final class Promise02PersonTest {
     public static void main(String[] args) {
-        Answers answers = new Answers("promise 2");
-        SignRows rows = new SignRows();
+        Sentences tests = new Sentences("Promise 2, person");
+        tests.sentence("A person: its number; FULL.");
+        tests.test("its number", Promise02PersonTest::number);
+        tests.test("FULL", Promise02PersonTest::full);
+        tests.test("FULL, and nobody has come", Promise02PersonTest::nobodyWhenFull);
+        tests.close();
+    }
+
+    private static void number(Answers answers) {
+        Run run = new Run(answers);
         for (int p = 0; p < 24; p++) {
-            answers.due("person()", rows.person(), p);
+            run.thing(p, SignRows.NONE);
+            run.person(p);
+            run.role(p, 0, 0, 0, true);
         }
-        answers.due("person() number 25", rows.person(), SignRows.FULL);
-        answers.due("person() number 26", rows.person(), SignRows.FULL);
-        answers.due("thing(23)", rows.thing(23), 0);
-        answers.due("thing(24)", rows.thing(24), SignRows.NONE);
-        answers.due("role(23, 0, 0, 0)", rows.role(23, 0, 0, 0), true);
-        answers.due("role(24, 0, 0, 0)", rows.role(24, 0, 0, 0), false);
-        answers.close();
+    }
+
+    private static void full(Answers answers) {
+        Run run = Run.withPersons(answers, 23);
+        run.person(23);
+        run.person(SignRows.FULL);
+        run.person(SignRows.FULL);
+    }
+
+    private static void nobodyWhenFull(Answers answers) {
+        Run run = Run.withPersons(answers, 24);
+        run.person(SignRows.FULL);
+        run.role(24, 0, 0, 0, false);
+        run.thing(24, SignRows.NONE);
+        run.role(23, 0, 0, 0, true);
+        run.thing(23, 0);
+        run.sign(0, 24, 0, 0, SignRows.NONE);
     }
 }

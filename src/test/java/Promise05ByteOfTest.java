@@ -1,54 +1,117 @@
-/** Promise 5: bytes 0 .. 255 come behind those of a thing, at most 1,000. */
+/** Promise 5: byteOf. */
 final class Promise05ByteOfTest {
     public static void main(String[] args) {
-        Answers answers = new Answers("promise 5");
-        refusals(answers);
-        order(answers);
-        atMostThousand(answers);
-        answers.close();
+        Sentences tests = new Sentences("Promise 5, byteOf");
+        tests.sentence("A byte (0 .. 255) comes behind those of a thing: true.");
+        tests.test("0 .. 255", Promise05ByteOfTest::everyByte);
+        tests.test("behind those", Promise05ByteOfTest::behind);
+        tests.test("of a thing, not of others", Promise05ByteOfTest::ofOneThing);
+        tests.sentence("False, refused, when there is no such thing, for another one, or when there are 1,000.");
+        tests.test("no such thing", Promise05ByteOfTest::noThing);
+        tests.test("for another one", Promise05ByteOfTest::anotherByte);
+        tests.test("refused, and the thing is as it was", Promise05ByteOfTest::sameWhenRefused);
+        tests.test("there are 1,000", Promise05ByteOfTest::thousand);
+        tests.test("1,000 of one thing", Promise05ByteOfTest::thousandOfOneThing);
+        tests.close();
     }
 
-    private static void refusals(Answers answers) {
-        SignRows rows = Answers.withPersons(1);
-        answers.due("byteOf(0, 1) of no thing", rows.byteOf(0, 1), false);
-        rows.thing(0);
-        rows.thing(0);
-        answers.due("byteOf(-1, 1)", rows.byteOf(-1, 1), false);
-        answers.due("byteOf(2, 1)", rows.byteOf(2, 1), false);
-        answers.due("byteOf(MAX, 1)", rows.byteOf(Integer.MAX_VALUE, 1), false);
-        answers.due("byteOf(0, -1)", rows.byteOf(0, -1), false);
-        answers.due("byteOf(0, 256)", rows.byteOf(0, 256), false);
-        answers.due("byteOf(0, MIN)", rows.byteOf(0, Integer.MIN_VALUE), false);
-        Digests.due(answers, rows, 0, new byte[0]);
-        answers.due("byteOf(0, 0)", rows.byteOf(0, 0), true);
-        answers.due("byteOf(0, 255)", rows.byteOf(0, 255), true);
-        Digests.due(answers, rows, 0, new byte[] {0, (byte) 255});
-        Digests.due(answers, rows, 1, new byte[0]);
-    }
-
-    private static void order(Answers answers) {
-        SignRows rows = Answers.withPersons(1);
-        rows.thing(0);
-        rows.thing(0);
-        rows.byteOf(0, 1);
-        rows.byteOf(1, 9);
-        rows.byteOf(0, 128);
-        rows.byteOf(0, 3);
-        Digests.due(answers, rows, 0, new byte[] {1, (byte) 128, 3});
-        Digests.due(answers, rows, 1, new byte[] {9});
-    }
-
-    // What calls behind the 512th answer is free; this test rests on their being answered alike.
-    private static void atMostThousand(Answers answers) {
-        SignRows rows = Answers.withPersons(1);
-        rows.thing(0);
-        byte[] bytes = new byte[1000];
-        for (int i = 0; i < 1000; i++) {
-            bytes[i] = (byte) (i * 7 + 3);
-            answers.due("byte " + i, rows.byteOf(0, bytes[i] & 0xff), true);
+    private static void everyByte(Answers answers) {
+        Run run = Run.withPersons(answers, 1);
+        run.thing(0, 0);
+        byte[] bytes = new byte[256];
+        for (int b = 0; b < 256; b++) {
+            bytes[b] = (byte) b;
+            run.byteOf(0, b, true);
         }
-        answers.due("byte 1000", rows.byteOf(0, 1), false);
-        answers.due("byte 1001", rows.byteOf(0, 1), false);
-        Digests.due(answers, rows, 0, bytes);
+        run.digestOf(0, bytes);
+    }
+
+    private static void behind(Answers answers) {
+        Run run = Run.withPersons(answers, 1);
+        run.thing(0, 0);
+        run.byteOf(0, 1, true);
+        run.digestOf(0, (byte) 1);
+        run.byteOf(0, 255, true);
+        run.digestOf(0, (byte) 1, (byte) 255);
+        run.byteOf(0, 0, true);
+        run.digestOf(0, (byte) 1, (byte) 255, (byte) 0);
+    }
+
+    private static void ofOneThing(Answers answers) {
+        Run run = Run.withPersons(answers, 1);
+        run.thing(0, 0);
+        run.thing(0, 1);
+        run.thing(0, 2);
+        run.byteOf(0, 1, true);
+        run.byteOf(2, 9, true);
+        run.byteOf(0, 2, true);
+        run.digestOf(0, (byte) 1, (byte) 2);
+        run.digestOf(1);
+        run.digestOf(2, (byte) 9);
+    }
+
+    private static void noThing(Answers answers) {
+        Run run = Run.withPersons(answers, 1);
+        run.byteOf(0, 1, false);
+        run.thing(0, 0);
+        run.thing(0, 1);
+        run.byteOf(2, 1, false);
+        for (int t : Run.NO_NUMBER) {
+            run.byteOf(t, 1, false);
+        }
+        run.byteOf(1, 1, true);
+    }
+
+    private static void anotherByte(Answers answers) {
+        Run run = Run.withPersons(answers, 1);
+        run.thing(0, 0);
+        int[] others = {-1, 256, -128, -255, -256, 511, 512, 65536, Integer.MIN_VALUE, Integer.MAX_VALUE};
+        for (int b : others) {
+            run.byteOf(0, b, false);
+        }
+        run.byteOf(0, 255, true);
+        run.byteOf(0, 0, true);
+    }
+
+    private static void sameWhenRefused(Answers answers) {
+        Run run = Run.withSigners(answers, 2);
+        run.byteOf(0, 5, true);
+        run.sign(0, 1, 0, 0, 0);
+        run.byteOf(0, 256, false);
+        run.byteOf(0, -1, false);
+        run.byteOf(1, 5, false);
+        run.holds(0, true);
+        run.digestOf(0, (byte) 5);
+    }
+
+    // What calls behind the 512th answer is free; no shorter run can bring so many bytes.
+    private static void thousand(Answers answers) {
+        Run run = Run.beyondPromise(answers);
+        run.person(0);
+        run.thing(0, 0);
+        byte[] bytes = thousandBytes(run);
+        run.byteOf(0, 1, false);
+        run.byteOf(0, 0, false);
+        run.digestOf(0, bytes);
+    }
+
+    private static void thousandOfOneThing(Answers answers) {
+        Run run = Run.beyondPromise(answers);
+        run.person(0);
+        run.thing(0, 0);
+        run.thing(0, 1);
+        thousandBytes(run);
+        run.byteOf(0, 1, false);
+        run.byteOf(1, 1, true);
+        run.digestOf(1, (byte) 1);
+    }
+
+    private static byte[] thousandBytes(Run run) {
+        byte[] bytes = new byte[1000];
+        for (int i = 0; i < bytes.length; i++) {
+            bytes[i] = (byte) (7 * i + 3);
+            run.byteOf(0, bytes[i] & 0xff, true);
+        }
+        return bytes;
     }
 }

@@ -1,188 +1,312 @@
-/** Promise 6: signatures, numbered from 0, and the refusals in their order. */
+/** Promise 6: sign, its numbers and each of its refusals. */
 final class Promise06SignTest {
-    private static final long LAST = Answers.LAST;
+    private static final long LAST = Run.LAST;
 
     public static void main(String[] args) {
-        Answers answers = new Answers("promise 6");
-        none(answers);
-        late(answers);
-        role(answers);
-        maker(answers);
-        order(answers);
-        orderOnTheThing(answers);
-        twice(answers);
-        full(answers);
-        firstThatIsSo(answers);
-        nothingChanges(answers);
-        answers.close();
+        Sentences tests = new Sentences("Promise 6, sign");
+        taken(tests);
+        refused(tests);
+        tests.close();
     }
 
-    private static void none(Answers answers) {
-        SignRows rows = Answers.withSigners(2);
-        int[] noThing = {-1, 1, 16, Integer.MIN_VALUE, Integer.MAX_VALUE};
-        for (int thing : noThing) {
-            answers.due("sign thing " + thing, Answers.sign(rows, thing, 1, 0, 0), SignRows.NONE);
-        }
-        int[] noPerson = {-1, 2, 24, Integer.MIN_VALUE, Integer.MAX_VALUE};
-        for (int person : noPerson) {
-            answers.due("sign person " + person, Answers.sign(rows, 0, person, 0, 0), SignRows.NONE);
-        }
-        int[] noMeaning = {-1, 10, 32, Integer.MIN_VALUE, Integer.MAX_VALUE};
-        for (int meaning : noMeaning) {
-            answers.due("sign meaning " + meaning, Answers.sign(rows, 0, 1, meaning, 0), SignRows.NONE);
-        }
-        answers.due("sign(0, 1, 9, 0)", Answers.sign(rows, 0, 1, 9, 0), 0);
-        answers.due("sign(0, 1, 0, 0)", Answers.sign(rows, 0, 1, 0, 0), 1);
+    private static void taken(Sentences tests) {
+        tests.sentence("A person signs a thing with a meaning at a second: the signature's number.");
+        tests.test("its number", Promise06SignTest::number);
     }
 
-    private static void late(Answers answers) {
-        SignRows rows = Answers.withSigners(2);
-        answers.due("sign at -1", Answers.sign(rows, 0, 1, 0, -1), SignRows.LATE);
-        answers.due("sign at MIN", Answers.sign(rows, 0, 1, 0, Long.MIN_VALUE), SignRows.LATE);
-        answers.due("sign at LAST + 1", Answers.sign(rows, 0, 1, 0, LAST + 1), SignRows.LATE);
-        answers.due("sign at MAX", Answers.sign(rows, 0, 1, 0, Long.MAX_VALUE), SignRows.LATE);
-        answers.due("sign at 0", Answers.sign(rows, 0, 1, 0, 0), 0);
-        answers.due("sign at 50", Answers.sign(rows, 0, 1, 1, 50), 1);
-        answers.due("sign at 49", Answers.sign(rows, 0, 1, 2, 49), SignRows.LATE);
-        answers.due("sign at 50 again", Answers.sign(rows, 0, 1, 2, 50), 2);
-        answers.due("comment at 60", rows.comment(0, 1, 60), true);
-        answers.due("sign at 59", Answers.sign(rows, 0, 1, 3, 59), SignRows.LATE);
-        answers.due("sign at 60", Answers.sign(rows, 0, 1, 3, 60), 3);
-        answers.due("sign at LAST", Answers.sign(rows, 0, 1, 4, LAST), 4);
-        answers.due("sign at LAST - 1", Answers.sign(rows, 0, 1, 5, LAST - 1), SignRows.LATE);
-        answers.due("sign at LAST again", Answers.sign(rows, 0, 1, 5, LAST), 5);
+    private static void refused(Sentences tests) {
+        tests.sentence("Refused, the first that is so: NONE (no such thing, person or meaning), LATE, then "
+            + "thrown: the person does not hold the role at that second; MAKER, ORDER (some meaning "
+            + "that was told to come before, directly, has no signature on the thing that holds), "
+            + "TWICE, FULL.");
+        tests.test("NONE, no such thing", Promise06SignTest::noThing);
+        tests.test("NONE, no such person", Promise06SignTest::noPerson);
+        tests.test("NONE, no such meaning", Promise06SignTest::noMeaning);
+        tests.test("LATE, before the clock", Promise06SignTest::lateBefore);
+        tests.test("LATE, out of its range", Promise06SignTest::lateOut);
+        tests.test("thrown, another role", Promise06SignTest::anotherRole);
+        tests.test("thrown, another person's role", Promise06SignTest::anotherPersonsRole);
+        tests.test("thrown, not at that second", Promise06SignTest::anotherSecond);
+        tests.test("MAKER", Promise06SignTest::maker);
+        tests.test("ORDER, some meaning", Promise06SignTest::orderOfSeveral);
+        tests.test("ORDER, to come before, not behind", Promise06SignTest::orderOneWay);
+        tests.test("ORDER, directly", Promise06SignTest::orderDirectly);
+        tests.test("ORDER, a signature of whatever person", Promise06SignTest::orderOfAnyPerson);
+        tests.test("ORDER, on the thing", Promise06SignTest::orderOnThing);
+        tests.test("ORDER, that holds, not withdrawn", Promise06SignTest::orderWithdrawn);
+        tests.test("ORDER, that holds, the thing not changed", Promise06SignTest::orderChanged);
+        tests.test("ORDER, the meanings 0 and 9", Promise06SignTest::orderOfOutermost);
+        tests.test("TWICE", Promise06SignTest::twice);
+        tests.test("TWICE, of the person", Promise06SignTest::twiceOfPerson);
+        tests.test("TWICE, with the meaning", Promise06SignTest::twiceWithMeaning);
+        tests.test("TWICE, on the thing", Promise06SignTest::twiceOnThing);
+        tests.test("TWICE, not behind a withdrawal", Promise06SignTest::twiceWithdrawn);
+        tests.test("TWICE, not behind a change", Promise06SignTest::twiceChanged);
+        tests.test("FULL", Promise06SignTest::full);
+        tests.test("FULL, withdrawn and changed ones count", Promise06SignTest::fullOfEnded);
     }
 
-    private static void role(Answers answers) {
-        SignRows rows = Answers.withPersons(3);
-        rows.thing(0);
-        rows.role(1, 0, 5, 10);
-        answers.due("another role", Answers.sign(rows, 0, 1, 1, 5), Answers.THROWN);
-        answers.due("another person", Answers.sign(rows, 0, 2, 0, 5), Answers.THROWN);
-        answers.due("before the role", Answers.sign(rows, 0, 1, 0, 4), Answers.THROWN);
-        answers.due("behind the role", Answers.sign(rows, 0, 1, 0, 11), Answers.THROWN);
-        answers.due("with the role", Answers.sign(rows, 0, 1, 0, 5), 0);
-        answers.due("holds behind the role", rows.comment(0, 1, 999) && rows.holds(0), true);
+    private static void number(Answers answers) {
+        Run run = Run.withSigners(answers, 3);
+        run.thing(2, 1);
+        run.sign(0, 1, 0, 0, 0);
+        run.sign(1, 1, 9, 0, 1);
+        run.sign(0, 1, 0, 0, SignRows.TWICE);
+        run.sign(0, 2, 5, 3, 2);
+        run.withdraw(1, true);
+        run.sign(1, 1, 9, LAST, 3);
+        for (int s = 0; s < 4; s++) {
+            run.holds(s, s != 1);
+        }
+    }
+
+    private static void noThing(Answers answers) {
+        Run run = Run.withSigners(answers, 2);
+        run.thing(0, 1);
+        run.sign(2, 1, 0, 0, SignRows.NONE);
+        for (int t : Run.NO_NUMBER) {
+            run.sign(t, 1, 0, 0, SignRows.NONE);
+        }
+        run.sign(1, 1, 0, 0, 0);
+    }
+
+    private static void noPerson(Answers answers) {
+        Run run = Run.withSigners(answers, 3);
+        run.sign(0, 3, 0, 0, SignRows.NONE);
+        for (int p : Run.NO_NUMBER) {
+            run.sign(0, p, 0, 0, SignRows.NONE);
+        }
+        run.sign(0, 2, 0, 0, 0);
+    }
+
+    private static void noMeaning(Answers answers) {
+        Run run = Run.withSigners(answers, 2);
+        run.sign(0, 1, 10, 0, SignRows.NONE);
+        run.sign(0, 1, 32, 0, SignRows.NONE);
+        for (int m : Run.NO_NUMBER) {
+            run.sign(0, 1, m, 0, SignRows.NONE);
+        }
+        run.sign(0, 1, 9, 0, 0);
+        run.sign(0, 1, 0, 0, 1);
+    }
+
+    private static void lateBefore(Answers answers) {
+        Run run = Run.withSigners(answers, 2);
+        run.sign(0, 1, 0, 50, 0);
+        run.sign(0, 1, 1, 49, SignRows.LATE);
+        run.sign(0, 1, 1, 0, SignRows.LATE);
+        run.sign(0, 1, 1, 50, 1);
+        run.comment(0, 1, 60, true);
+        run.sign(0, 1, 2, 59, SignRows.LATE);
+        run.sign(0, 1, 2, LAST, 2);
+        run.sign(0, 1, 3, LAST - 1, SignRows.LATE);
+        run.sign(0, 1, 3, LAST, 3);
+    }
+
+    private static void lateOut(Answers answers) {
+        Run run = Run.withSigners(answers, 2);
+        run.sign(0, 1, 0, -1, SignRows.LATE);
+        run.sign(0, 1, 0, LAST + 1, SignRows.LATE);
+        run.sign(0, 1, 0, Long.MIN_VALUE, SignRows.LATE);
+        run.sign(0, 1, 0, Long.MAX_VALUE, SignRows.LATE);
+        run.sign(0, 1, 0, 0, 0);
+        run.sign(0, 1, 1, LAST, 1);
+        run.sign(0, 1, 2, LAST + 1, SignRows.LATE);
+    }
+
+    private static void anotherRole(Answers answers) {
+        Run run = Run.withPersons(answers, 2);
+        run.thing(0, 0);
+        run.sign(0, 1, 4, 5, Run.THROWN);
+        run.role(1, 4, 0, 9, true);
+        run.sign(0, 1, 3, 5, Run.THROWN);
+        run.sign(0, 1, 5, 5, Run.THROWN);
+        run.sign(0, 1, 4, 5, 0);
+    }
+
+    private static void anotherPersonsRole(Answers answers) {
+        Run run = Run.withPersons(answers, 3);
+        run.thing(0, 0);
+        run.role(2, 4, 0, 9, true);
+        run.sign(0, 1, 4, 5, Run.THROWN);
+        run.sign(0, 2, 4, 5, 0);
+    }
+
+    private static void anotherSecond(Answers answers) {
+        Run run = Run.withPersons(answers, 2);
+        run.thing(0, 0);
+        run.role(1, 4, 5, 10, true);
+        run.sign(0, 1, 4, 4, Run.THROWN);
+        run.sign(0, 1, 4, 11, Run.THROWN);
+        run.sign(0, 1, 4, 5, 0);
+        run.withdraw(0, true);
+        run.sign(0, 1, 4, 10, 1);
     }
 
     private static void maker(Answers answers) {
-        SignRows rows = Answers.withSigners(2);
-        rows.role(0, 0, 0, 9);
-        rows.thing(1);
-        answers.due("the maker without the role", Answers.sign(rows, 0, 0, 1, 0), Answers.THROWN);
-        answers.due("the maker with the role", Answers.sign(rows, 0, 0, 0, 0), SignRows.MAKER);
-        answers.due("the maker of another thing", Answers.sign(rows, 1, 0, 0, 0), 0);
+        Run run = Run.withSigners(answers, 3);
+        run.role(0, 0, 0, 9, true);
+        run.thing(1, 1);
+        run.sign(0, 0, 0, 0, SignRows.MAKER);
+        run.sign(1, 1, 0, 0, SignRows.MAKER);
+        run.sign(0, 1, 0, 0, 0);
+        run.sign(1, 0, 0, 0, 1);
+        run.sign(1, 2, 0, 0, 2);
     }
 
-    private static void order(Answers answers) {
-        SignRows rows = Answers.withSigners(3);
-        rows.order(2, 1);
-        rows.order(1, 0);
-        rows.order(2, 5);
-        answers.due("2 without 1 and 5", Answers.sign(rows, 0, 1, 2, 0), SignRows.ORDER);
-        answers.due("1 without 0", Answers.sign(rows, 0, 1, 1, 0), SignRows.ORDER);
-        answers.due("0", Answers.sign(rows, 0, 1, 0, 0), 0);
-        answers.due("2 without 1", Answers.sign(rows, 0, 1, 2, 0), SignRows.ORDER);
-        answers.due("1 of another person", Answers.sign(rows, 0, 2, 1, 0), 1);
-        answers.due("2 without 5", Answers.sign(rows, 0, 1, 2, 0), SignRows.ORDER);
-        answers.due("5", Answers.sign(rows, 0, 1, 5, 0), 2);
-        answers.due("withdraw 0", rows.withdraw(0), true);
-        answers.due("2 needs 0 over 1 only", Answers.sign(rows, 0, 1, 2, 0), 3);
-        answers.due("1 without 0 again", Answers.sign(rows, 0, 1, 1, 0), SignRows.ORDER);
-        answers.due("withdraw 1", rows.withdraw(1), true);
-        answers.due("3 holds all the same", rows.holds(3), true);
-        answers.due("2 without 1 again", Answers.sign(rows, 0, 2, 2, 0), SignRows.ORDER);
+    private static void orderOfSeveral(Answers answers) {
+        Run run = Run.withSigners(answers, 2);
+        run.order(2, 1, true);
+        run.order(2, 5, true);
+        run.order(2, 9, true);
+        run.sign(0, 1, 2, 0, SignRows.ORDER);
+        run.sign(0, 1, 9, 0, 0);
+        run.sign(0, 1, 1, 0, 1);
+        run.sign(0, 1, 2, 0, SignRows.ORDER);
+        run.sign(0, 1, 5, 0, 2);
+        run.withdraw(1, true);
+        run.sign(0, 1, 2, 0, SignRows.ORDER);
+        run.sign(0, 1, 1, 0, 3);
+        run.sign(0, 1, 2, 0, 4);
     }
 
-    private static void orderOnTheThing(Answers answers) {
-        SignRows rows = Answers.withSigners(2);
-        rows.thing(0);
-        rows.order(1, 0);
-        answers.due("0 on thing 1", Answers.sign(rows, 1, 1, 0, 0), 0);
-        answers.due("1 on thing 0", Answers.sign(rows, 0, 1, 1, 0), SignRows.ORDER);
-        answers.due("1 on thing 1", Answers.sign(rows, 1, 1, 1, 0), 1);
-        rows.byteOf(1, 1);
-        answers.due("1 on thing 1, changed", Answers.sign(rows, 1, 1, 1, 0), SignRows.ORDER);
+    private static void orderOneWay(Answers answers) {
+        Run run = Run.withSigners(answers, 2);
+        run.order(2, 1, true);
+        run.sign(0, 1, 1, 0, 0);
+        run.sign(0, 1, 3, 0, 1);
+        run.sign(0, 1, 2, 0, 2);
+    }
+
+    private static void orderDirectly(Answers answers) {
+        Run run = Run.withSigners(answers, 2);
+        run.order(2, 1, true);
+        run.order(1, 0, true);
+        run.sign(0, 1, 0, 0, 0);
+        run.sign(0, 1, 2, 0, SignRows.ORDER);
+        run.sign(0, 1, 1, 0, 1);
+        run.withdraw(0, true);
+        run.sign(0, 1, 2, 0, 2);
+        run.withdraw(1, true);
+        run.sign(0, 1, 1, 0, SignRows.ORDER);
+    }
+
+    private static void orderOfAnyPerson(Answers answers) {
+        Run run = Run.withSigners(answers, 3);
+        run.order(1, 0, true);
+        run.sign(0, 2, 0, 0, 0);
+        run.sign(0, 1, 1, 0, 1);
+        run.sign(0, 2, 1, 0, 2);
+    }
+
+    private static void orderOnThing(Answers answers) {
+        Run run = Run.withSigners(answers, 2);
+        run.thing(0, 1);
+        run.order(1, 0, true);
+        run.sign(1, 1, 0, 0, 0);
+        run.sign(0, 1, 1, 0, SignRows.ORDER);
+        run.sign(1, 1, 1, 0, 1);
+    }
+
+    private static void orderWithdrawn(Answers answers) {
+        Run run = Run.withSigners(answers, 3);
+        run.order(1, 0, true);
+        run.sign(0, 1, 0, 0, 0);
+        run.withdraw(0, true);
+        run.sign(0, 1, 1, 0, SignRows.ORDER);
+        run.sign(0, 1, 0, 0, 1);
+        run.sign(0, 2, 0, 0, 2);
+        run.withdraw(1, true);
+        run.sign(0, 1, 1, 0, 3);
+    }
+
+    private static void orderChanged(Answers answers) {
+        Run run = Run.withSigners(answers, 2);
+        run.order(1, 0, true);
+        run.sign(0, 1, 0, 0, 0);
+        run.byteOf(0, 0, true);
+        run.sign(0, 1, 1, 0, SignRows.ORDER);
+        run.sign(0, 1, 0, 0, 1);
+        run.sign(0, 1, 1, 0, 2);
+    }
+
+    private static void orderOfOutermost(Answers answers) {
+        Run first = Run.withSigners(answers, 2);
+        first.order(9, 0, true);
+        first.sign(0, 1, 9, 0, SignRows.ORDER);
+        first.sign(0, 1, 0, 0, 0);
+        first.sign(0, 1, 9, 0, 1);
+        Run last = Run.withSigners(answers, 2);
+        last.order(0, 9, true);
+        last.sign(0, 1, 0, 0, SignRows.ORDER);
+        last.sign(0, 1, 9, 0, 0);
+        last.sign(0, 1, 0, 0, 1);
     }
 
     private static void twice(Answers answers) {
-        SignRows rows = Answers.withSigners(3);
-        rows.thing(0);
-        answers.due("first", Answers.sign(rows, 0, 1, 0, 0), 0);
-        answers.due("twice", Answers.sign(rows, 0, 1, 0, 0), SignRows.TWICE);
-        answers.due("twice later", Answers.sign(rows, 0, 1, 0, 1), SignRows.TWICE);
-        answers.due("another meaning", Answers.sign(rows, 0, 1, 1, 0), 1);
-        answers.due("another person", Answers.sign(rows, 0, 2, 0, 0), 2);
-        answers.due("another thing", Answers.sign(rows, 1, 1, 0, 0), 3);
-        rows.withdraw(0);
-        answers.due("behind a withdrawal", Answers.sign(rows, 0, 1, 0, 0), 4);
-        answers.due("twice again", Answers.sign(rows, 0, 1, 0, 0), SignRows.TWICE);
-        rows.byteOf(0, 1);
-        answers.due("behind a change", Answers.sign(rows, 0, 1, 0, 0), 5);
-        answers.due("twice on the changed thing", Answers.sign(rows, 0, 1, 0, 0), SignRows.TWICE);
+        Run run = Run.withSigners(answers, 2);
+        run.sign(0, 1, 0, 0, 0);
+        run.sign(0, 1, 0, 0, SignRows.TWICE);
+        run.sign(0, 1, 0, LAST, SignRows.TWICE);
+    }
+
+    private static void twiceOfPerson(Answers answers) {
+        Run run = Run.withSigners(answers, 3);
+        run.sign(0, 1, 0, 0, 0);
+        run.sign(0, 2, 0, 0, 1);
+        run.sign(0, 1, 0, 0, SignRows.TWICE);
+        run.sign(0, 2, 0, 0, SignRows.TWICE);
+    }
+
+    private static void twiceWithMeaning(Answers answers) {
+        Run run = Run.withSigners(answers, 2);
+        run.sign(0, 1, 0, 0, 0);
+        run.sign(0, 1, 9, 0, 1);
+        run.sign(0, 1, 0, 0, SignRows.TWICE);
+        run.sign(0, 1, 9, 0, SignRows.TWICE);
+    }
+
+    // The document's words name no thing here; they are read as those for ORDER are.
+    private static void twiceOnThing(Answers answers) {
+        Run run = Run.withSigners(answers, 2);
+        run.thing(0, 1);
+        run.sign(0, 1, 0, 0, 0);
+        run.sign(1, 1, 0, 0, 1);
+        run.sign(1, 1, 0, 0, SignRows.TWICE);
+    }
+
+    private static void twiceWithdrawn(Answers answers) {
+        Run run = Run.withSigners(answers, 2);
+        run.sign(0, 1, 0, 0, 0);
+        run.withdraw(0, true);
+        run.sign(0, 1, 0, 0, 1);
+        run.sign(0, 1, 0, 0, SignRows.TWICE);
+    }
+
+    private static void twiceChanged(Answers answers) {
+        Run run = Run.withSigners(answers, 2);
+        run.sign(0, 1, 0, 0, 0);
+        run.comment(0, 1, 0, true);
+        run.sign(0, 1, 0, 0, SignRows.TWICE);
+        run.byteOf(0, 1, true);
+        run.sign(0, 1, 0, 0, 1);
+        run.sign(0, 1, 0, 0, SignRows.TWICE);
     }
 
     private static void full(Answers answers) {
-        SignRows rows = Answers.withSigners(6);
-        int number = 0;
-        for (int round = 0; round < 8; round++) {
-            for (int p = 1; p <= 5; p++) {
-                for (int m = 0; m < 10; m++) {
-                    answers.due("signature " + number, Answers.sign(rows, 0, p, m, round), number);
-                    number++;
-                }
-            }
-            if (round < 7) {
-                rows.byteOf(0, round);
-            }
-        }
-        answers.due("TWICE before FULL", Answers.sign(rows, 0, 1, 0, 8), SignRows.TWICE);
-        rows.withdraw(399);
-        answers.due("FULL", Answers.sign(rows, 0, 5, 9, 8), SignRows.FULL);
-        rows.order(9, 8);
-        rows.byteOf(0, 1);
-        answers.due("ORDER before FULL", Answers.sign(rows, 0, 5, 9, 8), SignRows.ORDER);
-        answers.due("FULL at 9", Answers.sign(rows, 0, 1, 0, 9), SignRows.FULL);
-        answers.due("the clock has not moved", rows.comment(0, 1, 7), true);
-        answers.due("holds(400)", rows.holds(400), false);
+        Run run = Run.withSigners(answers, 6);
+        Fill.signatures(run);
+        run.thing(0, 8);
+        run.sign(8, 1, 0, 0, SignRows.FULL);
+        run.sign(8, 5, 9, 0, SignRows.FULL);
     }
 
-    private static void firstThatIsSo(Answers answers) {
-        SignRows rows = Answers.withPersons(2);
-        rows.thing(0);
-        rows.role(0, 1, 0, 100);
-        rows.role(1, 0, 0, 100);
-        rows.role(1, 1, 0, 100);
-        answers.due("0", Answers.sign(rows, 0, 1, 0, 10), 0);
-        answers.due("1", Answers.sign(rows, 0, 1, 1, 10), 1);
-        rows.order(1, 2);
-        answers.due("NONE before LATE", Answers.sign(rows, 0, 2, 1, 9), SignRows.NONE);
-        answers.due("NONE before LATE", Answers.sign(rows, 0, 1, 10, -1), SignRows.NONE);
-        answers.due("LATE before the throw", Answers.sign(rows, 0, 1, 5, 9), SignRows.LATE);
-        answers.due("LATE before MAKER", Answers.sign(rows, 0, 0, 1, 9), SignRows.LATE);
-        answers.due("the throw before MAKER", Answers.sign(rows, 0, 0, 1, 101), Answers.THROWN);
-        answers.due("the throw before ORDER", Answers.sign(rows, 0, 1, 1, 101), Answers.THROWN);
-        answers.due("MAKER before ORDER", Answers.sign(rows, 0, 0, 1, 10), SignRows.MAKER);
-        answers.due("ORDER before TWICE", Answers.sign(rows, 0, 1, 1, 10), SignRows.ORDER);
-        answers.due("TWICE", Answers.sign(rows, 0, 1, 0, 10), SignRows.TWICE);
-    }
-
-    private static void nothingChanges(Answers answers) {
-        SignRows rows = Answers.withPersons(2);
-        rows.thing(0);
-        rows.role(0, 0, 0, 1000);
-        rows.role(1, 0, 0, 1000);
-        rows.role(1, 1, 0, 1000);
-        rows.order(1, 2);
-        answers.due("taken at 5", Answers.sign(rows, 0, 1, 0, 5), 0);
-        answers.due("thrown", Answers.sign(rows, 0, 1, 0, 2000), Answers.THROWN);
-        answers.due("MAKER", Answers.sign(rows, 0, 0, 0, 900), SignRows.MAKER);
-        answers.due("ORDER", Answers.sign(rows, 0, 1, 1, 900), SignRows.ORDER);
-        answers.due("TWICE", Answers.sign(rows, 0, 1, 0, 900), SignRows.TWICE);
-        answers.due("LATE", Answers.sign(rows, 0, 1, 0, LAST + 1), SignRows.LATE);
-        answers.due("holds(1)", rows.holds(1), false);
-        answers.due("comment at the clock", rows.comment(0, 1, 5), true);
-        rows.withdraw(0);
-        answers.due("the next number", Answers.sign(rows, 0, 1, 0, 5), 1);
+    private static void fullOfEnded(Answers answers) {
+        Run run = Run.withSigners(answers, 6);
+        Fill.signatures(run);
+        run.withdraw(399, true);
+        run.sign(7, 5, 9, 0, SignRows.FULL);
+        run.byteOf(0, 1, true);
+        run.sign(0, 1, 0, 0, SignRows.FULL);
     }
 }

@@ -1,37 +1,94 @@
-/** Promise 7: a signature holds until it is withdrawn or its thing's digest is another one. */
+/** Promise 7: holds. */
 final class Promise07HoldsTest {
     public static void main(String[] args) {
-        Answers answers = new Answers("promise 7");
-        SignRows rows = Answers.withSigners(3);
-        rows.thing(0);
-        answers.due("holds(0) of none", rows.holds(0), false);
-        Answers.sign(rows, 0, 1, 0, 0);
-        Answers.sign(rows, 1, 1, 0, 0);
-        Answers.sign(rows, 0, 2, 0, 0);
-        for (int s = 0; s < 3; s++) {
-            answers.due("holds(" + s + ")", rows.holds(s), true);
+        Sentences tests = new Sentences("Promise 7, holds");
+        tests.sentence("Whether a signature holds.");
+        tests.test("until it is withdrawn", Promise07HoldsTest::withdrawn);
+        tests.test("until its thing is changed", Promise07HoldsTest::changed);
+        tests.test("a byte that is 0 changes it too", Promise07HoldsTest::changedByZero);
+        tests.test("a change of another thing ends nothing", Promise07HoldsTest::otherThing);
+        tests.test("nothing else ends it", Promise07HoldsTest::nothingElse);
+        tests.sentence("False when there is none.");
+        tests.test("no such number", Promise07HoldsTest::none);
+        tests.close();
+    }
+
+    private static void withdrawn(Answers answers) {
+        Run run = Run.withSigners(answers, 3);
+        run.sign(0, 1, 0, 0, 0);
+        run.sign(0, 2, 0, 0, 1);
+        run.sign(0, 1, 1, 0, 2);
+        run.holds(1, true);
+        run.withdraw(1, true);
+        run.holds(0, true);
+        run.holds(1, false);
+        run.holds(2, true);
+        run.sign(0, 2, 0, 0, 3);
+        run.holds(1, false);
+        run.holds(3, true);
+    }
+
+    private static void changed(Answers answers) {
+        Run run = Run.withSigners(answers, 2);
+        run.byteOf(0, 1, true);
+        run.sign(0, 1, 0, 0, 0);
+        run.holds(0, true);
+        run.byteOf(0, 1, true);
+        run.holds(0, false);
+        run.sign(0, 1, 0, 0, 1);
+        run.holds(0, false);
+        run.holds(1, true);
+        run.byteOf(0, 1, true);
+        run.holds(0, false);
+        run.holds(1, false);
+    }
+
+    private static void changedByZero(Answers answers) {
+        Run run = Run.withSigners(answers, 2);
+        run.sign(0, 1, 0, 0, 0);
+        run.byteOf(0, 0, true);
+        run.holds(0, false);
+    }
+
+    private static void otherThing(Answers answers) {
+        Run run = Run.withSigners(answers, 2);
+        run.thing(0, 1);
+        run.sign(0, 1, 0, 0, 0);
+        run.sign(1, 1, 0, 0, 1);
+        run.byteOf(1, 9, true);
+        run.holds(0, true);
+        run.holds(1, false);
+        run.byteOf(0, 9, true);
+        run.holds(0, false);
+        run.holds(1, false);
+    }
+
+    private static void nothingElse(Answers answers) {
+        Run run = Run.withPersons(answers, 2);
+        run.thing(0, 0);
+        run.role(1, 0, 0, 5, true);
+        run.role(1, 1, 0, 5, true);
+        run.order(1, 0, true);
+        run.sign(0, 1, 0, 5, 0);
+        run.sign(0, 1, 1, 5, 1);
+        run.withdraw(0, true);
+        run.order(1, 7, true);
+        run.needs(0, 7, 0);
+        run.byteOf(0, 256, false);
+        run.comment(0, 5, Run.LAST, true);
+        run.holds(1, true);
+    }
+
+    private static void none(Answers answers) {
+        Run run = Run.withSigners(answers, 2);
+        run.holds(0, false);
+        run.sign(0, 1, 0, 0, 0);
+        run.sign(0, 1, 1, 0, 1);
+        run.holds(1, true);
+        run.holds(2, false);
+        run.holds(399, false);
+        for (int s : Run.NO_NUMBER) {
+            run.holds(s, false);
         }
-        int[] none = {-1, 3, 399, 400, Integer.MIN_VALUE, Integer.MAX_VALUE};
-        for (int s : none) {
-            answers.due("holds(" + s + ") of none", rows.holds(s), false);
-        }
-        rows.withdraw(2);
-        answers.due("holds(2) withdrawn", rows.holds(2), false);
-        answers.due("holds(0) besides", rows.holds(0), true);
-        rows.comment(0, 5, 0);
-        rows.needs(0, 7);
-        rows.order(7, 8);
-        rows.byteOf(0, 256);
-        answers.due("holds(0) of bytes as before", rows.holds(0), true);
-        rows.byteOf(0, 0);
-        answers.due("holds(0) of a changed thing", rows.holds(0), false);
-        answers.due("holds(1) of the other thing", rows.holds(1), true);
-        Answers.sign(rows, 0, 1, 0, 0);
-        answers.due("holds(3) signed anew", rows.holds(3), true);
-        answers.due("holds(0) all the same", rows.holds(0), false);
-        rows.byteOf(1, 9);
-        answers.due("holds(1) of a changed thing", rows.holds(1), false);
-        answers.due("holds(3) besides", rows.holds(3), true);
-        answers.close();
     }
 }

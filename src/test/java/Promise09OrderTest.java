@@ -1,83 +1,192 @@
-/** Promise 9: orders of meanings, without rings. */
+/** Promise 9: order. */
 final class Promise09OrderTest {
     public static void main(String[] args) {
-        Answers answers = new Answers("promise 9");
-        refusals(answers);
-        rings(answers);
-        longRing(answers);
-        ringOverJoinedRows(answers);
-        everyPair(answers);
-        toldLater(answers);
-        answers.close();
+        Sentences tests = new Sentences("Promise 9, order");
+        told(tests);
+        refused(tests);
+        tests.close();
     }
 
-    private static void refusals(Answers answers) {
-        SignRows rows = new SignRows();
-        int[] none = {-1, 10, 32, 42, Integer.MIN_VALUE, Integer.MAX_VALUE};
-        for (int m : none) {
-            answers.due("order(" + m + ", 0)", rows.order(m, 0), false);
-            answers.due("order(0, " + m + ")", rows.order(0, m), false);
+    private static void told(Sentences tests) {
+        tests.sentence("A meaning may be signed only when another one has a signature that holds on the thing: "
+            + "true.");
+        tests.test("only then", Promise09OrderTest::told);
+        tests.test("the meanings 0 and 9", Promise09OrderTest::outermost);
+        tests.test("from then on, for all things", Promise09OrderTest::fromThenOn);
+    }
+
+    private static void refused(Sentences tests) {
+        tests.sentence("False, refused, when one is none, both are one, it is told already, or after comes "
+            + "behind meaning by what is told (also over others).");
+        tests.test("meaning is none", Promise09OrderTest::noMeaning);
+        tests.test("after is none", Promise09OrderTest::noAfter);
+        tests.test("both are one", Promise09OrderTest::bothOne);
+        tests.test("told already", Promise09OrderTest::already);
+        tests.test("not told already when it follows over others alone", Promise09OrderTest::notAlready);
+        tests.test("after comes behind meaning", Promise09OrderTest::behind);
+        tests.test("also over one other", Promise09OrderTest::behindOverOne);
+        tests.test("also over eight others", Promise09OrderTest::behindOverEight);
+        tests.test("also when told in another order", Promise09OrderTest::behindOverJoined);
+        tests.test("also over either of two ways", Promise09OrderTest::behindOverTwoWays);
+        tests.test("none but these is refused", Promise09OrderTest::everyPair);
+        tests.test("refused, and nothing is ordered by it", Promise09OrderTest::notOrdered);
+    }
+
+    private static void told(Answers answers) {
+        Run run = Run.withSigners(answers, 2);
+        run.order(1, 0, true);
+        run.sign(0, 1, 1, 0, SignRows.ORDER);
+        run.sign(0, 1, 0, 0, 0);
+        run.sign(0, 1, 1, 0, 1);
+    }
+
+    private static void outermost(Answers answers) {
+        Run first = Run.withSigners(answers, 2);
+        first.order(0, 9, true);
+        first.sign(0, 1, 0, 0, SignRows.ORDER);
+        first.sign(0, 1, 9, 0, 0);
+        Run last = Run.withSigners(answers, 2);
+        last.order(9, 0, true);
+        last.sign(0, 1, 9, 0, SignRows.ORDER);
+        last.sign(0, 1, 0, 0, 0);
+    }
+
+    private static void fromThenOn(Answers answers) {
+        Run run = Run.withSigners(answers, 3);
+        run.sign(0, 1, 1, 0, 0);
+        run.order(1, 0, true);
+        run.holds(0, true);
+        run.sign(0, 2, 1, 0, SignRows.ORDER);
+        run.thing(0, 1);
+        run.sign(1, 2, 1, 0, SignRows.ORDER);
+    }
+
+    private static void noMeaning(Answers answers) {
+        Run run = new Run(answers);
+        run.order(10, 0, false);
+        run.order(32, 0, false);
+        for (int m : Run.NO_NUMBER) {
+            run.order(m, 0, false);
         }
+        run.order(9, 0, true);
+    }
+
+    private static void noAfter(Answers answers) {
+        Run run = new Run(answers);
+        run.order(0, 10, false);
+        run.order(0, 32, false);
+        for (int m : Run.NO_NUMBER) {
+            run.order(0, m, false);
+        }
+        run.order(0, 9, true);
+    }
+
+    private static void bothOne(Answers answers) {
+        Run run = new Run(answers);
         for (int m = 0; m < 10; m++) {
-            answers.due("order(" + m + ", " + m + ")", rows.order(m, m), false);
+            run.order(m, m, false);
         }
-        answers.due("order(9, 0)", rows.order(9, 0), true);
-        answers.due("order(9, 0) again", rows.order(9, 0), false);
+        run.order(10, 10, false);
+        run.order(-1, -1, false);
     }
 
-    private static void rings(Answers answers) {
-        SignRows rows = new SignRows();
-        answers.due("order(1, 0)", rows.order(1, 0), true);
-        answers.due("order(0, 1)", rows.order(0, 1), false);
-        answers.due("order(2, 1)", rows.order(2, 1), true);
-        answers.due("order(0, 2)", rows.order(0, 2), false);
-        answers.due("order(2, 0), over 1 already", rows.order(2, 0), true);
-        answers.due("order(2, 0) again", rows.order(2, 0), false);
-        answers.due("order(0, 3)", rows.order(0, 3), true);
-        answers.due("order(3, 2)", rows.order(3, 2), false);
-        answers.due("order(3, 1)", rows.order(3, 1), false);
-        answers.due("order(3, 4)", rows.order(3, 4), true);
-        answers.due("order(4, 2)", rows.order(4, 2), false);
-        answers.due("order(5, 2)", rows.order(5, 2), true);
+    private static void already(Answers answers) {
+        Run run = new Run(answers);
+        run.order(1, 0, true);
+        run.order(1, 0, false);
+        run.order(2, 0, true);
+        run.order(2, 1, true);
+        run.order(1, 0, false);
+        run.order(2, 0, false);
+        run.order(2, 1, false);
     }
 
-    private static void longRing(Answers answers) {
-        SignRows rows = new SignRows();
+    private static void notAlready(Answers answers) {
+        Run run = new Run(answers);
+        run.order(1, 0, true);
+        run.order(2, 1, true);
+        run.order(2, 0, true);
+        run.order(2, 0, false);
+    }
+
+    private static void behind(Answers answers) {
+        Run run = new Run(answers);
+        run.order(1, 0, true);
+        run.order(0, 1, false);
+        run.order(9, 5, true);
+        run.order(5, 9, false);
+    }
+
+    private static void behindOverOne(Answers answers) {
+        Run run = new Run(answers);
+        run.order(1, 0, true);
+        run.order(2, 1, true);
+        run.order(0, 2, false);
+        run.order(8, 9, true);
+        run.order(7, 8, true);
+        run.order(9, 7, false);
+    }
+
+    private static void behindOverEight(Answers answers) {
+        Run falling = new Run(answers);
         for (int m = 9; m > 0; m--) {
-            answers.due("order(" + m + ", " + (m - 1) + ")", rows.order(m, m - 1), true);
+            falling.order(m, m - 1, true);
+        }
+        Run rising = new Run(answers);
+        for (int m = 1; m < 10; m++) {
+            rising.order(m, m - 1, true);
         }
         for (int m = 1; m < 10; m++) {
-            answers.due("order(0, " + m + ")", rows.order(0, m), false);
+            falling.order(0, m, false);
+            rising.order(0, m, false);
         }
     }
 
-    private static void ringOverJoinedRows(Answers answers) {
-        SignRows rows = new SignRows();
-        rows.order(1, 0);
-        rows.order(3, 2);
-        answers.due("order(2, 1) joins both", rows.order(2, 1), true);
-        answers.due("order(0, 3)", rows.order(0, 3), false);
-        answers.due("order(1, 3)", rows.order(1, 3), false);
-        answers.due("order(3, 0)", rows.order(3, 0), true);
+    private static void behindOverJoined(Answers answers) {
+        Run run = new Run(answers);
+        run.order(1, 0, true);
+        run.order(4, 3, true);
+        run.order(3, 2, true);
+        run.order(2, 1, true);
+        run.order(0, 4, false);
+        run.order(0, 3, false);
+        run.order(1, 4, false);
+        run.order(4, 0, true);
+    }
+
+    private static void behindOverTwoWays(Answers answers) {
+        Run run = new Run(answers);
+        run.order(3, 1, true);
+        run.order(3, 2, true);
+        run.order(1, 0, true);
+        run.order(2, 5, true);
+        run.order(0, 3, false);
+        run.order(5, 3, false);
+        run.order(0, 5, true);
+        run.order(5, 1, false);
+        run.order(5, 0, false);
     }
 
     private static void everyPair(Answers answers) {
-        SignRows rows = new SignRows();
+        Run run = new Run(answers);
         for (int m = 0; m < 10; m++) {
             for (int after = 0; after < 10; after++) {
-                answers.due("order(" + m + ", " + after + ")", rows.order(m, after), m < after);
+                run.order(m, after, m < after);
             }
         }
     }
 
-    private static void toldLater(Answers answers) {
-        SignRows rows = Answers.withSigners(3);
-        answers.due("1 without an order", Answers.sign(rows, 0, 1, 1, 0), 0);
-        answers.due("order(1, 0)", rows.order(1, 0), true);
-        answers.due("holds(0) all the same", rows.holds(0), true);
-        answers.due("1 without 0", Answers.sign(rows, 0, 2, 1, 0), SignRows.ORDER);
-        answers.due("order(0, 1) is refused", rows.order(0, 1), false);
-        answers.due("so 0 may be signed", Answers.sign(rows, 0, 2, 0, 0), 1);
-        answers.due("and 1 then", Answers.sign(rows, 0, 2, 1, 0), 2);
+    private static void notOrdered(Answers answers) {
+        Run run = Run.withSigners(answers, 2);
+        run.order(1, 0, true);
+        run.order(0, 1, false);
+        run.order(2, 2, false);
+        run.order(3, 10, false);
+        run.order(3, -1, false);
+        run.order(3, 32, false);
+        run.sign(0, 1, 2, 0, 0);
+        run.sign(0, 1, 3, 0, 1);
+        run.sign(0, 1, 0, 0, 2);
+        run.sign(0, 1, 1, 0, 3);
     }
 }

@@ -1,50 +1,101 @@
-/** Promise 13: the withdrawn signatures in the order in which they were withdrawn. */
+/** Promise 13: listed. */
 final class Promise13ListedTest {
     public static void main(String[] args) {
-        Answers answers = new Answers("promise 13");
-        few(answers);
-        many(answers);
-        answers.close();
+        Sentences tests = new Sentences("Promise 13, listed");
+        tests.sentence("Signature number k, from 0, of those that are withdrawn, in the order in which they "
+            + "were withdrawn.");
+        tests.test("from 0", Promise13ListedTest::fromZero);
+        tests.test("not those whose thing was changed", Promise13ListedTest::notChanged);
+        tests.test("also behind a later signature of the same", Promise13ListedTest::signedAnew);
+        tests.test("in the order of withdrawing", Promise13ListedTest::inOrder);
+        tests.sentence("NONE.");
+        tests.test("before any is withdrawn", Promise13ListedTest::noneAtFirst);
+        tests.test("behind the last", Promise13ListedTest::behindLast);
+        tests.test("below 0", Promise13ListedTest::below);
+        tests.close();
     }
 
-    private static void few(Answers answers) {
-        SignRows rows = Answers.withSigners(2);
-        answers.due("listed(0) of none", rows.listed(0), SignRows.NONE);
-        for (int m = 0; m < 4; m++) {
-            Answers.sign(rows, 0, 1, m, 0);
-        }
-        answers.due("listed(0) before", rows.listed(0), SignRows.NONE);
-        rows.withdraw(3);
-        rows.withdraw(0);
-        rows.withdraw(3);
-        rows.withdraw(9);
-        rows.withdraw(2);
-        answers.due("listed(0)", rows.listed(0), 3);
-        answers.due("listed(1)", rows.listed(1), 0);
-        answers.due("listed(2)", rows.listed(2), 2);
-        int[] none = {-1, 3, 4, 400, Integer.MIN_VALUE, Integer.MAX_VALUE};
+    private static void fromZero(Answers answers) {
+        Run run = withFour(answers);
+        run.withdraw(2, true);
+        run.listed(0, 2);
+        run.withdraw(3, true);
+        run.listed(0, 2);
+        run.listed(1, 3);
+    }
+
+    private static void notChanged(Answers answers) {
+        Run run = withFour(answers);
+        run.byteOf(0, 1, true);
+        run.holds(0, false);
+        run.listed(0, SignRows.NONE);
+        run.withdraw(1, true);
+        run.listed(0, 1);
+        run.listed(1, SignRows.NONE);
+    }
+
+    private static void signedAnew(Answers answers) {
+        Run run = withFour(answers);
+        run.withdraw(1, true);
+        run.sign(0, 1, 1, 0, 4);
+        run.holds(4, true);
+        run.listed(0, 1);
+        run.withdraw(4, true);
+        run.listed(0, 1);
+        run.listed(1, 4);
+    }
+
+    private static void inOrder(Answers answers) {
+        Run run = withFour(answers);
+        run.withdraw(3, true);
+        run.withdraw(0, true);
+        run.withdraw(3, false);
+        run.withdraw(9, false);
+        run.withdraw(2, true);
+        run.withdraw(1, true);
+        run.listed(0, 3);
+        run.listed(1, 0);
+        run.listed(2, 2);
+        run.listed(3, 1);
+    }
+
+    private static void noneAtFirst(Answers answers) {
+        Run run = withFour(answers);
+        run.listed(0, SignRows.NONE);
+        run.withdraw(4, false);
+        run.listed(0, SignRows.NONE);
+        run.withdraw(0, true);
+        run.listed(0, 0);
+    }
+
+    private static void behindLast(Answers answers) {
+        Run run = withFour(answers);
+        run.withdraw(3, true);
+        run.withdraw(2, true);
+        run.listed(1, 2);
+        int[] none = {2, 3, 4, 399, 400, 401, 1 << 8, 1 << 16, Integer.MAX_VALUE};
         for (int k : none) {
-            answers.due("listed(" + k + ")", rows.listed(k), SignRows.NONE);
+            run.listed(k, SignRows.NONE);
         }
-        rows.byteOf(0, 1);
-        answers.due("listed(3) of changed but not withdrawn", rows.listed(3), SignRows.NONE);
     }
 
-    // What calls behind the 512th answer is free; this test rests on their being answered alike.
-    private static void many(Answers answers) {
-        SignRows rows = Answers.withSigners(2);
-        for (int s = 0; s < 400; s++) {
-            answers.due("signature " + s, Answers.sign(rows, 0, 1, s % 10, s), s);
-            if (s % 10 == 9) {
-                rows.byteOf(0, s % 256);
-            }
+    private static void below(Answers answers) {
+        Run run = withFour(answers);
+        run.listed(-1, SignRows.NONE);
+        run.withdraw(3, true);
+        int[] none = {-1, -2, -256, -(1 << 16), Integer.MIN_VALUE};
+        for (int k : none) {
+            run.listed(k, SignRows.NONE);
         }
-        for (int s = 399; s >= 0; s--) {
-            answers.due("withdraw(" + s + ")", rows.withdraw(s), true);
+        run.listed(0, 3);
+    }
+
+    /** Signatures 0 .. 3 on thing 0, of person 1, each with the meaning of its number. */
+    private static Run withFour(Answers answers) {
+        Run run = Run.withSigners(answers, 2);
+        for (int s = 0; s < 4; s++) {
+            run.sign(0, 1, s, 0, s);
         }
-        for (int k = 0; k < 400; k++) {
-            answers.due("listed(" + k + ")", rows.listed(k), 399 - k);
-        }
-        answers.due("listed(400)", rows.listed(400), SignRows.NONE);
+        return run;
     }
 }
