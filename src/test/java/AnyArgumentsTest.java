@@ -1,4 +1,7 @@
-/** No call throws anything but sign's IllegalStateException, for any arguments in any state. */
+/**
+ * No call throws anything but sign's IllegalStateException, for any arguments in any state: this binds
+ * calls behind the 512th too, whose answers are free.
+ */
 final class AnyArgumentsTest {
     private static final int[] INTS = {
         Integer.MIN_VALUE, Integer.MIN_VALUE + 31, -33, -32, -2, -1, 0, 1, 2, 9, 10, 15, 16, 23, 24, 31, 32, 33,

@@ -1,7 +1,8 @@
 /** Fixed runs of mixed calls, each answer compared with that of PlainRows. */
 final class ManyRunsTest {
     private static final int RUNS = 2000;
-    private static final int CALLS = 512;
+    private static final int CALLS = 400;
+    private static final int LAST_QUESTIONS = (Run.MOST_CALLS - CALLS) / 2;
 
     private final Answers answers;
     private final SignRows rows = new SignRows();
@@ -56,7 +57,7 @@ final class ManyRunsTest {
                 one(call);
             }
         }
-        for (int k = -1; k < 130; k++) {
+        for (int k = -1; k < LAST_QUESTIONS - 1; k++) {
             same("holds(" + k + ")", rows.holds(k) ? 1 : 0, plain.holds(k) ? 1 : 0);
             same("listed(" + k + ")", rows.listed(k), plain.listed(k));
         }

@@ -55,21 +55,47 @@ final class Promise01NewObjectTest {
         }
     }
 
+    // The two are told different things by turns, so that whatever they shared would show.
     private static void objectsApart(Answers answers) {
         Run one = Run.withSigners(answers, 2);
         one.byteOf(0, 7, true);
         one.order(1, 0, true);
-        one.sign(0, 1, 0, 9, 0);
-        one.comment(0, 1, 9, true);
         one.needs(0, 5, 0);
-        Run other = Run.withSigners(answers, 2);
-        other.holds(0, false);
-        other.digestOf(0);
-        other.digest(0, 32, SignRows.NONE);
-        other.complete(0, 0);
+        one.sign(0, 1, 0, 9, 0);
+        one.sign(0, 1, 5, 9, 1);
+        one.withdraw(1, true);
+        one.comment(0, 200, 9, true);
+        Run other = asNew(answers);
+        other.thing(0, 0);
+        other.role(1, 1, 0, 3, true);
+        other.order(0, 1, true);
         other.sign(0, 1, 1, 0, 0);
+        other.withdraw(0, true);
+        other.comment(0, 100, 0, true);
         one.digestOf(0, (byte) 7);
+        one.digest(0, 32, 200);
         one.holds(0, true);
+        one.listed(0, 1);
         one.complete(0, 1);
+        one.order(0, 1, false);
+        one.sign(0, 1, 0, 9, SignRows.TWICE);
+        one.sign(0, 1, 1, 9, 2);
+        one.sign(0, 1, 9, 9, 3);
+        one.person(2);
+        one.thing(1, 1);
+        asNew(answers);
+    }
+
+    private static Run asNew(Answers answers) {
+        Run run = new Run(answers);
+        run.holds(0, false);
+        run.withdraw(0, false);
+        run.listed(0, SignRows.NONE);
+        run.complete(0, SignRows.NONE);
+        run.digest(0, 0, SignRows.NONE);
+        run.thing(0, SignRows.NONE);
+        run.person(0);
+        run.person(1);
+        return run;
     }
 }

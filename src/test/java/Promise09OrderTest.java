@@ -168,10 +168,17 @@ final class Promise09OrderTest {
     }
 
     private static void everyPair(Answers answers) {
-        Run run = new Run(answers);
+        Run rising = new Run(answers);
+        Run falling = new Run(answers);
+        Run growing = new Run(answers);
         for (int m = 0; m < 10; m++) {
             for (int after = 0; after < 10; after++) {
-                run.order(m, after, m < after);
+                rising.order(m, after, m < after);
+                falling.order(9 - m, after, 9 - m > after);
+            }
+            for (int after = 0; after < m; after++) {
+                growing.order(m, after, true);
+                growing.order(after, m, false);
             }
         }
     }

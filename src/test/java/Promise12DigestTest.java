@@ -36,6 +36,7 @@ final class Promise12DigestTest {
         run.digestOf(1, (byte) 2);
         run.digestOf(0, (byte) 1, (byte) 3);
         run.byteOf(0, 256, false);
+        run.digestOf(1, (byte) 2);
         run.digestOf(0, (byte) 1, (byte) 3);
     }
 

@@ -4,7 +4,7 @@ final class Run {
     static final int THROWN = Integer.MIN_VALUE;
     static final long LAST = 1_000_000_000_000L;
     static final int MOST_CALLS = 512;
-    /** Numbers that are none of fewer than 24, among them some that a narrower type or a shift would bend. */
+    /** Numbers that nothing has in a short run; in a byte, a short or without their sign some would be small. */
     static final int[] NO_NUMBER = {-1, 400, 1 << 8, 1 << 16, -(1 << 16), Integer.MIN_VALUE, Integer.MAX_VALUE};
 
     private final Answers answers;
